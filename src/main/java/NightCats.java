@@ -28,6 +28,8 @@ public final class NightCats {
     // a night in a row: five single numbers, three rows of cats, two of houses, the book
     private static final int ROW = 5 + 3 * CATS + 2 * HOUSES + BOOK;
 
+    // more steps than any pairs need together
+    private static final int UNABLE = 1000;
     private static final int SIGHTS = 10;
     private static final int LAST_SIGHT = 99;
     private static final int CLUES = 8;
@@ -39,6 +41,7 @@ public final class NightCats {
 
     private static final int BYTES = 300;
     private static final int CLAUSES = 24;
+    private static final int NEW_LINE = 10;
     private static final int OPEN = 8;
     private static final int HIGHEST = 9999;
     private static final int LIMIT = 1000000;
@@ -762,22 +765,18 @@ public final class NightCats {
         keepIf(step);
         int taken = 0;
         for (int cat = 0; cat < night.cats; cat++) {
-            if (night.home[cat] == NONE) {
+            int house = night.home[cat];
+            if (house == NONE) {
                 night.wander(cat);
-            } else {
-                taken += dine(night, cat, night.home[cat]);
+                continue;
+            }
+            taken += night.take(cat, house, law.taking(rule(), night, cat, house));
+            if (law.going(rule(), night, cat) > 0) {
+                night.leave(cat, house, GONE_OFF);
             }
         }
         night.hour++;
         return taken;
-    }
-
-    private int dine(Night night, int cat, int house) {
-        int bite = night.take(cat, house, law.taking(rule(), night, cat, house));
-        if (law.going(rule(), night, cat) > 0) {
-            night.leave(cat, house, GONE_OFF);
-        }
-        return bite;
     }
 
     private void keepIf(boolean step) {
@@ -856,7 +855,7 @@ public final class NightCats {
             return NONE;
         }
         pairs.settle(now.night, farthest);
-        return what == 0 ? pairs.most : pairs.cheapest();
+        return what == 0 ? pairs.most : pairs.leastSteps();
     }
 
     private static int tell(Notes notes, int first, int second, int third, boolean fits) {
@@ -1028,13 +1027,13 @@ public final class NightCats {
         void enter(int cat, int house) {
             home[cat] = house;
             came[house] = Math.min(came[house] + 1, MOST_CAME);
-            write(cat, house, LET_IN);
+            note(cat, house, LET_IN);
         }
 
         /** A cat in a house stands at its door already, so its place stays. */
         void leave(int cat, int house, int how) {
             home[cat] = NONE;
-            write(cat, house, how);
+            note(cat, house, how);
         }
 
         void move(int cat, int by) {
@@ -1062,7 +1061,7 @@ public final class NightCats {
             return bite;
         }
 
-        private void write(int cat, int house, int deed) {
+        private void note(int cat, int house, int deed) {
             if (booked >= BOOK) {
                 System.arraycopy(book, 1, book, 0, BOOK - 1);
                 booked = BOOK - 1;
@@ -1300,10 +1299,12 @@ public final class NightCats {
         int length;
         int fault;
         int faultAt;
-        private int place;
-        private int start;
+        private final int[] kinds = new int[BYTES + 1];
+        private final int[] starts = new int[BYTES + 1];
+        private final int[] values = new int[BYTES + 1];
+        private int tokens;
+        private int token;
         private int kind;
-        private int value;
         private int law;
 
         Reader() {
@@ -1324,8 +1325,7 @@ public final class NightCats {
             draft.wipe();
             fault = 0;
             faultAt = NONE;
-            place = 0;
-            next();
+            scan();
             for (int i = 0; i < BYTES && fault == 0 && kind != END; i++) {
                 clause();
             }
@@ -1335,26 +1335,43 @@ public final class NightCats {
         private void blame(int number) {
             if (fault == 0) {
                 fault = number;
-                faultAt = start;
+                faultAt = starts[token];
             }
         }
 
         // ---- tokens
 
-        private void next() {
-            while (place < length && (tape[place] == ' ' || tape[place] == 10)) {
-                place++;
+        private void scan() {
+            tokens = 0;
+            int place = 0;
+            for (int i = 0; i < BYTES && place < length; i++) {
+                boolean blank = tape[place] == ' ' || tape[place] == NEW_LINE;
+                place = blank ? place + 1 : scanToken(place);
             }
-            start = place;
-            if (place >= length) {
-                kind = END;
-            } else if (isLetter(tape[place])) {
-                word();
-            } else if (isDigit(tape[place])) {
-                digits();
+            kinds[tokens] = END;
+            starts[tokens] = length;
+            token = 0;
+            kind = kinds[0];
+        }
+
+        /** Adds the token that begins at a place: the place behind it. */
+        private int scanToken(int start) {
+            int sign = tape[start];
+            starts[tokens] = start;
+            values[tokens] = 0;
+            int behind = start + 1;
+            if (isLetter(sign)) {
+                behind = scanWord(start);
+            } else if (isDigit(sign)) {
+                behind = scanNumber(start);
+            } else if ((sign == '<' || sign == '>') && behind < length && tape[behind] == '=') {
+                kinds[tokens] = sign == '<' ? LESS_OR_LIKE : MORE_OR_LIKE;
+                behind++;
             } else {
-                sign();
+                kinds[tokens] = SIGNS.indexOf((char) sign) >= 0 ? sign : NO_TOKEN;
             }
+            tokens++;
+            return behind;
         }
 
         private static boolean isLetter(int sign) {
@@ -1365,26 +1382,28 @@ public final class NightCats {
             return sign >= '0' && sign <= '9';
         }
 
-        private void word() {
-            while (place < length && isLetter(tape[place])) {
-                place++;
+        private int scanWord(int start) {
+            int behind = start;
+            while (behind < length && isLetter(tape[behind])) {
+                behind++;
             }
-            kind = NO_TOKEN;
             int begin = 0;
-            int number = WORD;
-            for (int i = 0; i < WORDS.length() && kind == NO_TOKEN; i++) {
+            int word = WORD;
+            kinds[tokens] = NO_TOKEN;
+            for (int i = 0; i < WORDS.length(); i++) {
                 if (WORDS.charAt(i) == ' ') {
-                    if (i - begin == place - start && isWord(begin)) {
-                        kind = number;
+                    if (i - begin == behind - start && isWord(begin, start, behind)) {
+                        kinds[tokens] = word;
                     }
                     begin = i + 1;
-                    number++;
+                    word++;
                 }
             }
+            return behind;
         }
 
-        private boolean isWord(int begin) {
-            for (int i = start; i < place; i++) {
+        private boolean isWord(int begin, int start, int behind) {
+            for (int i = start; i < behind; i++) {
                 if (tape[i] != WORDS.charAt(begin + i - start)) {
                     return false;
                 }
@@ -1392,24 +1411,23 @@ public final class NightCats {
             return true;
         }
 
-        private void digits() {
-            value = 0;
-            while (place < length && isDigit(tape[place])) {
-                value = Math.min(value * 10 + tape[place] - '0', HIGHEST + 1);
-                place++;
+        private int scanNumber(int start) {
+            int behind = start;
+            int value = 0;
+            while (behind < length && isDigit(tape[behind])) {
+                value = Math.min(value * 10 + tape[behind] - '0', HIGHEST + 1);
+                behind++;
             }
-            kind = NUMBER;
+            kinds[tokens] = NUMBER;
+            values[tokens] = value;
+            return behind;
         }
 
-        private void sign() {
-            char sign = (char) tape[place];
-            place++;
-            kind = SIGNS.indexOf(sign) >= 0 ? sign : NO_TOKEN;
-            boolean like = place < length && tape[place] == '=';
-            if (like && (kind == '<' || kind == '>')) {
-                kind = kind == '<' ? LESS_OR_LIKE : MORE_OR_LIKE;
-                place++;
+        private void next() {
+            if (token < tokens) {
+                token++;
             }
+            kind = kinds[token];
         }
 
         private void expect(int wanted) {
@@ -1425,13 +1443,13 @@ public final class NightCats {
                 blame(CANT_STAND);
                 return least;
             }
-            int read = value;
-            if (read < least || read > most) {
+            int value = values[token];
+            if (value < least || value > most) {
                 blame(NOT_TOLD);
                 return least;
             }
             next();
-            return read;
+            return value;
         }
 
         // ---- clauses
@@ -1812,8 +1830,7 @@ public final class NightCats {
 
     /** Pairs of a cat without and a house with none in it, by the steps that are left from each house on with some cats gone. */
     private static final class Pairs {
-        private static final int UNABLE = 1000;
-        private final int[] best = new int[(HOUSES + 1) << CATS];
+        private final int[] best = new int[HOUSES + 1 << CATS];
         private final int[] cat = new int[CATS];
         private final int[] house = new int[HOUSES];
         private int cats;
@@ -1831,11 +1848,11 @@ public final class NightCats {
             byFarthest = farthest;
             most = Math.min(cats, houses);
             for (int gone = 0; gone < 1 << cats; gone++) {
-                best[houses << CATS | gone] = Integer.bitCount(gone) == most ? 0 : UNABLE;
+                best[cell(houses, gone)] = Integer.bitCount(gone) == most ? 0 : UNABLE;
             }
             for (int h = houses - 1; h >= 0; h--) {
                 for (int gone = 0; gone < 1 << cats; gone++) {
-                    best[h << CATS | gone] = least(night, h, gone);
+                    best[cell(h, gone)] = least(night, h, gone);
                 }
             }
         }
@@ -1862,7 +1879,7 @@ public final class NightCats {
             if (paired > h || paired + houses - h < most) {
                 return UNABLE;
             }
-            int steps = best[h + 1 << CATS | gone];
+            int steps = best[cell(h + 1, gone)];
             for (int c = 0; c < cats; c++) {
                 if (!hasBit(gone, c)) {
                     steps = Math.min(steps, paired(night, h, gone, c));
@@ -1874,12 +1891,17 @@ public final class NightCats {
         /** The steps from the h-th house on if it gets the c-th cat. */
         private int paired(Night night, int h, int gone, int c) {
             int own = night.away(cat[c], house[h]);
-            int rest = best[h + 1 << CATS | gone | 1 << c];
+            int rest = best[cell(h + 1, gone | 1 << c)];
             return byFarthest ? Math.max(own, rest) : own + rest;
         }
 
-        int cheapest() {
-            return best[0];
+        /** Where the steps from the h-th house on stand, the cats of some bits being gone. */
+        private static int cell(int h, int gone) {
+            return (h << CATS) + gone;
+        }
+
+        int leastSteps() {
+            return best[cell(0, 0)];
         }
 
         int partner(Night night, int wanted) {
@@ -1895,8 +1917,8 @@ public final class NightCats {
         }
 
         private int chosen(Night night, int h, int gone) {
-            int steps = best[h << CATS | gone];
-            if (best[h + 1 << CATS | gone] == steps) {
+            int steps = best[cell(h, gone)];
+            if (best[cell(h + 1, gone)] == steps) {
                 return NONE;
             }
             for (int c = 0; c < cats; c++) {
