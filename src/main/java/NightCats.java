@@ -56,7 +56,7 @@ public final class NightCats {
     private static final int TOO_MANY = 6;
 
     // Kinds of tokens; in the code of a law they are what is to be done.
-    // A sign of one byte is that byte, a word is WORD and its number in WORDS.
+    // A sign of one byte is that byte, a word is WORD and its number in WORDS, where each has six columns.
     private static final int END = 0;
     private static final int NUMBER = 1;
     private static final int NO_TOKEN = 2;
@@ -64,7 +64,8 @@ public final class NightCats {
     private static final int MORE_OR_LIKE = 4;
     private static final int NEGATE = 5;
     private static final String SIGNS = "<>=#+-*/();";
-    private static final String WORDS = "takes goes house cat let out up down hour dream cold to turn chill if then else end or and not who taken place came inside ";
+    private static final String WORDS = "takes goes  house cat   let   out   up    down  hour  dream cold  to    turn  chill if    then  else  end   or    and   not   who   taken place came  inside";
+    private static final int LONGEST_WORD = 6;
     private static final int WORD = 300;
     private static final int TAKES = 300;
     private static final int GOES = 301;
@@ -1387,28 +1388,28 @@ public final class NightCats {
             while (behind < length && isLetter(tape[behind])) {
                 behind++;
             }
-            int begin = 0;
-            int word = WORD;
             kinds[tokens] = NO_TOKEN;
-            for (int i = 0; i < WORDS.length(); i++) {
-                if (WORDS.charAt(i) == ' ') {
-                    if (i - begin == behind - start && isWord(begin, start, behind)) {
-                        kinds[tokens] = word;
-                    }
-                    begin = i + 1;
-                    word++;
+            for (int word = 0; word < WORDS.length() / LONGEST_WORD; word++) {
+                if (isWord(word * LONGEST_WORD, start, behind)) {
+                    kinds[tokens] = WORD + word;
+                    break;
                 }
             }
             return behind;
         }
 
+        /** Whether the letters from start on are the word whose columns begin there, and it has no more. */
         private boolean isWord(int begin, int start, int behind) {
-            for (int i = start; i < behind; i++) {
-                if (tape[i] != WORDS.charAt(begin + i - start)) {
+            int letters = behind - start;
+            if (letters > LONGEST_WORD) {
+                return false;
+            }
+            for (int i = 0; i < letters; i++) {
+                if (tape[start + i] != WORDS.charAt(begin + i)) {
                     return false;
                 }
             }
-            return true;
+            return letters == LONGEST_WORD || WORDS.charAt(begin + letters) == ' ';
         }
 
         private int scanNumber(int start) {
