@@ -371,6 +371,7 @@ public final class DeedsTest {
             int second = (first * 647 + 509) % 30931;
             if (first % 6 == 3 && second % 6 == 2) {
                 x.years(seed, 2);
+                Due.due("one step, seed " + seed, x.about(4), 3);
                 Due.due("one is put out, seed " + seed, x.ofHouse(second % 2, 2), -1);
                 Due.due("the other stays, seed " + seed, x.ofHouse(1 - second % 2, 2), second % 2);
                 Due.due("the book", x.book(2, 3), 1);
@@ -378,6 +379,8 @@ public final class DeedsTest {
             if (first % 6 == 3 && second % 6 == 4) {
                 Due.due("an hour, seed " + seed, x.years(seed, 2), 1);
                 Due.due("3 are taken", x.is(3), 3);
+                Due.due("one step, seed " + seed, x.undo(), 2);
+                Due.due("none is taken", x.is(3), 0);
             }
             if (first % 6 == 3 && second % 6 == 0) {
                 x.out(0);
@@ -387,6 +390,7 @@ public final class DeedsTest {
                 int cat = second / 6 % 2;
                 x.years(seed, 2);
                 Due.due("let in, seed " + seed, x.of(cat, 2), cat == 1 - second % 2 ? second % 2 : -1);
+                Due.due("one step, seed " + seed, x.about(4), 6);
             }
         }
     }

@@ -649,6 +649,14 @@ public final class QuestionsTest {
         Due.due("dreamless", x.dreamless(), 7);
         x.out(1);
         Due.due("free", x.free(), 7);
+        x.let(0, 0);
+        Due.due("not the first", x.free(), 6);
+        NightCats y = stand("37", "3");
+        Due.due("none is dreamless", y.dreamless(), 0);
+        y.house(1, 0);
+        Due.due("the third", y.dreamless(), 4);
+        y.let(0, 0);
+        Due.due("the others", y.free(), 6);
         Due.due("none", new NightCats().free(), 0);
         Due.due("none", new NightCats().dreamless(), 0);
     }

@@ -126,6 +126,29 @@ public final class TextsTest {
         Due.fault("Takes 1;", 1, 0);
         Due.fault("takes 1;tAkes 1;", 1, 8);
         Due.fault("takesx 1;", 1, 0);
+        // a word goes from its first letter to its last: a z A Z are letters
+        for (String letter : new String[] {"a", "z", "A", "Z"}) {
+            Due.fault("takes" + letter + " 1;", 1, 0);
+            Due.fault(letter + "takes 1;", 1, 0);
+            Due.fault("takes 1;takes" + letter + " 1;", 1, 8);
+        }
+        for (String sign : new String[] {"@", "[", "`", "{"}) {
+            Due.fault("takes" + sign + " 1;", 1, 5);
+        }
+        Due.fault("inside 1;", 1, 0);
+        Due.fault("goes insides;", 1, 5);
+        Due.fault("goes insid;", 1, 5);
+        Due.fault("goes hou r;", 1, 5);
+        Due.fault("goes col;", 1, 5);
+        Due.fault("goes whowhowho;", 1, 5);
+        Due.fault("goes " + Due.times(295, "w"), 1, 5);
+        // as many tokens as can be
+        Due.fault(Due.times(300, ";"), 1, 0);
+        Due.fault("takes " + Due.times(147, "1+"), 1, 300);
+        Due.fault("takes " + Due.times(146, "1+") + "1;", 0, -1);
+        Due.fault("takes " + Due.times(293, "9") + ";", 2, 6);
+        Due.fault("takes " + Due.times(292, "0") + "1;", 0, -1);
+        Due.fault(Due.times(300, " "), 0, -1);
         Due.fault("takes 1\t;", 1, 7);
         Due.fault("takes 1;\r", 1, 8);
         Due.fault("takes 0001;", 0, -1);
@@ -188,6 +211,13 @@ public final class TextsTest {
         Due.fault("takes 10000;", 2, 6);
         Due.fault("goes 1+99999999999999999999;", 2, 7);
         Due.fault("house 10 dream 1000;", 2, 6);
+        Due.fault("house 9 dream 1000;", 2, 14);
+        Due.fault("cat 10 cold 9;", 2, 4);
+        Due.fault("cat 9 cold 10;", 2, 11);
+        Due.fault("let 6 to 5;", 2, 4);
+        Due.fault("let 5 to 6;", 2, 9);
+        Due.fault("out 6;", 2, 4);
+        Due.fault("up 6;", 2, 3);
         Due.fault("up 4294967296;", 2, 3);
         Due.fault("down 6", 2, 5);
     }
