@@ -1626,27 +1626,26 @@ public final class NightCats {
         }
 
         private void ask(int open) {
-            if (fault != 0) {
-                return;
+            int nots = 0;
+            while (kind == NOT && open + nots < OPEN) {
+                nots++;
+                next();
             }
             if (kind == NOT) {
-                if (open >= OPEN) {
-                    blame(TOO_DEEP);
-                    return;
-                }
-                next();
-                ask(open + 1);
-                draft.put(NOT);
+                blame(TOO_DEEP);
                 return;
             }
-            sum(open);
+            sum(open + nots);
             int asked = kind;
-            if (isComparison(asked)) {
-                next();
-                sum(open);
-                draft.put(asked);
-            } else {
+            if (!isComparison(asked)) {
                 blame(CANT_STAND);
+                return;
+            }
+            next();
+            sum(open + nots);
+            draft.put(asked);
+            for (int i = 0; i < nots; i++) {
+                draft.put(NOT);
             }
         }
 
@@ -1952,7 +1951,7 @@ public final class NightCats {
             boolean found = all == 0;
             for (int most = 1; most <= all && !found; most++) {
                 cats = most;
-                found = assign(0, all, 0, most);
+                found = assign(this, 0, all, 0, most);
             }
         }
 
@@ -1965,18 +1964,18 @@ public final class NightCats {
         }
 
         /** The lowest way to give the sights from the i-th on to at most so many cats, of whom some are in use. */
-        private boolean assign(int i, int all, int used, int most) {
+        private static boolean assign(Tracks tracks, int i, int all, int used, int most) {
             if (i >= all) {
                 return true;
             }
             for (int c = 0; c <= used && c < most; c++) {
-                if ((group[c] & ~friends[i]) == 0) {
-                    owner[i] = c;
-                    group[c] |= 1 << i;
-                    if (assign(i + 1, all, Math.max(used, c + 1), most)) {
+                if ((tracks.group[c] & ~tracks.friends[i]) == 0) {
+                    tracks.owner[i] = c;
+                    tracks.group[c] |= 1 << i;
+                    if (assign(tracks, i + 1, all, Math.max(used, c + 1), most)) {
                         return true;
                     }
-                    group[c] &= ~(1 << i);
+                    tracks.group[c] &= ~(1 << i);
                 }
             }
             return false;
@@ -1995,21 +1994,21 @@ public final class NightCats {
 
         void join(Notes pieces) {
             ways = 0;
-            extend(pieces, 0, 0);
+            extend(this, pieces, 0, 0);
         }
 
-        private void extend(Notes pieces, int placed, int used) {
+        private static void extend(Joins joins, Notes pieces, int placed, int used) {
             if (placed >= pieces.count) {
-                if (ways == 0) {
-                    System.arraycopy(order, 0, lowest, 0, PIECES);
+                if (joins.ways == 0) {
+                    System.arraycopy(joins.order, 0, joins.lowest, 0, PIECES);
                 }
-                ways++;
+                joins.ways++;
                 return;
             }
             for (int p = 0; p < pieces.count; p++) {
-                if (!hasBit(used, p) && (placed == 0 || follows(pieces, order[placed - 1], p))) {
-                    order[placed] = p;
-                    extend(pieces, placed + 1, used | 1 << p);
+                if (!hasBit(used, p) && (placed == 0 || follows(pieces, joins.order[placed - 1], p))) {
+                    joins.order[placed] = p;
+                    extend(joins, pieces, placed + 1, used | 1 << p);
                 }
             }
         }
