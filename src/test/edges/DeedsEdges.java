@@ -29,6 +29,8 @@ final class DeedsEdges {
         image();
         back();
         about();
+        refused();
+        drawsThatCant();
     }
 
     /** Houses 0 (door 3), 1 (door 7), 2 (door 9); cats 0 (in house 0), 1, 2, 3; laws; five steps, the image being as it was ahead of the latest three; some of all that is told. */
@@ -651,7 +653,7 @@ final class DeedsEdges {
                 late.go(5, true);
             }
             late.let(5, 5);
-            late.by(Due.read(late, "goes 1;"));
+            Edges.rule(late, "goes 1;");
             late.hour(1);
             int[][] last = {{9998, 5, 5, 0}, {9998, 5, 5, 2}};
             for (int i = 0; i < 2; i++) {
@@ -811,6 +813,105 @@ final class DeedsEdges {
             for (int what : new int[] {-1, 10, 11, LEAST, MOST}) {
                 Edges.still("about(" + what + ")", DeedsEdges::furnished, x -> x.about(what), -2);
             }
+        });
+    }
+
+    private static void refused() {
+        Edges.test(10, "if there is none in it", () -> {
+            Edges.still("none ever", DeedsEdges::furnished, x -> x.out(1), -1);
+            Edges.still("none any more", () -> {
+                NightCats x = furnished();
+                x.out(0);
+                return x;
+            }, x -> x.out(0), -1);
+        });
+        Edges.test(9, "if it can't be", () -> {
+            Edges.still("a door above", () -> at(3, 4), x -> Edges.one(x.let(0, 0)), 0);
+            Edges.still("a door below", () -> at(3, 2), x -> Edges.one(x.let(0, 0)), 0);
+            Edges.still("9 is not 0", () -> at(9, 0), x -> Edges.one(x.let(0, 0)), 0);
+            Edges.due("there", at(9, 9).let(0, 0), true);
+        });
+        Edges.test(11, "if it can't be", () -> Edges.still("in a house", DeedsEdges::furnished, x -> Edges.one(x.go(0, true)), 0));
+        Edges.test(15, "The latest STEP is taken back", () -> {
+            NightCats x = furnished();
+            x.undo();
+            Edges.due("the latest let is back", x.of(0, 2), -1);
+            Edges.due("the out isn't yet", x.book(-1, 0), 2);
+            x.undo();
+            Edges.due("the out is back", x.of(0, 2), 0);
+        });
+        Edges.test(21, "how many (i NONE)", () -> {
+            for (int what : new int[] {0, 3, -1, 4, LEAST, MOST}) {
+                Edges.still("book(-1, " + what + ")", DeedsEdges::furnished, x -> x.book(-1, what), 3);
+            }
+        });
+        Edges.test(21, "-2 if there is none such", () -> {
+            NightCats x = furnished();
+            for (int i = 0; i < 12; i++) {
+                x.out(0);
+                x.let(0, 0);
+            }
+            for (int what = 0; what < 4; what++) {
+                Edges.due("book(25, " + what + ") of 25", x.book(25, what), -2);
+                Edges.due("book(24, " + what + ") of 25", x.book(24, what) == -2, false);
+            }
+        });
+        Edges.test(55, "(it stays)", () -> {
+            NightCats x = furnished();
+            for (int i = 0; i < 5; i++) {
+                x.hour(1 + i);
+                Edges.due("back", x.back(), 1);
+            }
+        });
+    }
+
+    /** A house at a door, a cat at a place. */
+    private static NightCats at(int door, int place) {
+        NightCats x = new NightCats();
+        x.house(door, 9);
+        x.cat(place, 1);
+        return x;
+    }
+
+    private static void drawsThatCant() {
+        Edges.test(14, "(each if it can be)", () -> {
+            // 397: cat 66 to house 0: not at its door; 399: cat 0 up, in a house
+            NightCats x = at(4, 3);
+            x.years(0, 1);
+            Edges.due("not at the door", x.of(0, 2), -1);
+            Edges.due("nothing is written down", x.book(-1, 0), 0);
+            NightCats y = at(3, 3);
+            y.let(0, 0);
+            y.years(1, 1);
+            Edges.due("in a house it isn't gone", y.of(0, 0), 3);
+            y.years(0, 1);
+            Edges.due("one in a house isn't let in", y.ofHouse(0, 3), 1);
+            Edges.due("nothing more is written down", y.book(-1, 0), 1);
+            Edges.due("two steps", y.about(4), 3);
+        });
+        Edges.test(14, "4, 5 an HOUR (if it can pass)", () -> {
+            for (int seed = 0; seed < 12; seed++) {
+                NightCats x = late(1);
+                int first = seed * 2 + 397;
+                int due = 9998;
+                for (int i = 0; i < 9; i++) {
+                    due += due < 9999 && first % 6 >= 4 ? 1 : 0;
+                    first = next(first);
+                }
+                x.out(0);
+                Edges.due("years(" + seed + ", 9)", x.years(seed, 9), due);
+            }
+        });
+        Edges.test(14, "x mod 6", () -> {
+            // 401: 5; 397: 1; 399: 3: an hour, a cat let in, a cat gone
+            NightCats x = at(4, 4);
+            Edges.due("5", x.years(2, 1), 1);
+            NightCats y = at(4, 4);
+            y.years(0, 1);
+            Edges.due("1", y.of(0, 2), 0);
+            NightCats z = at(4, 4);
+            z.years(1, 1);
+            Edges.due("3", z.of(0, 0), 5);
         });
     }
 }

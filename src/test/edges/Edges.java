@@ -66,6 +66,15 @@ final class Edges {
         still(call, made, ask, ask.applyAsLong(made.get()));
     }
 
+    /** A text that must be without a fault rules. */
+    static void rule(NightCats x, String laws) {
+        int text = Due.read(x, laws);
+        if (text < 0) {
+            blame("a fault in " + laws);
+        }
+        x.by(text);
+    }
+
     static long one(boolean answer) {
         return answer ? 1 : 0;
     }

@@ -30,6 +30,8 @@ final class PiecesEdges {
         dreamless();
         free();
         ledger();
+        piecesOfThemselves();
+        smaller();
     }
 
     private static NightCats furnished() {
@@ -471,7 +473,7 @@ final class PiecesEdges {
                 all.cat(0, 9);
                 all.let(i, i);
             }
-            all.by(Due.read(all, "takes 99;"));
+            Edges.rule(all, "takes 99;");
             all.hour(11);
             share("999 of 5979", all, 0, 333, 1993);
             share("994 of 5979", all, 5, 994, 5979);
@@ -577,5 +579,107 @@ final class PiecesEdges {
             Edges.due("cat 5 of six", DeedsEdges.crowded().ledger(5), 0);
             Edges.due("all of none", new NightCats().ledger(-1), 0);
         });
+    }
+
+    private static void piecesOfThemselves() {
+        Edges.test(39, "(the first highest; without PIECES 0)", () -> {
+            Edges.still("without PIECES", NightCats::new, NightCats::dream, 0);
+            joined("1000", 1, "0", 8);
+            joined("1000 0100", 1, "01", 0b1000100);
+            // five of four bits, joined four times: sixteen
+            joined("1000 0000 0000 0000 0001", 30, "01234", 0x8001);
+            joined("1111 1111 1111 1111 1110", 24, "01234", 0xfffe);
+        });
+        Edges.test(38, "(no way: none)", () -> {
+            NightCats x = pieces("10 10 10 10 10");
+            Edges.due("ways", x.joins(-1), 0);
+            for (int i = 0; i < 5; i++) {
+                Edges.due("joins(" + i + ")", x.joins(i), -2);
+            }
+            Edges.due("dream", x.dream(), -1);
+        });
+        Edges.test(37, "(1 .. 4; bits)", () -> {
+            for (int width = -1; width <= 6; width++) {
+                for (int bits = -1; bits <= 33; bits++) {
+                    boolean fits = width >= 1 && width <= 4 && bits >= 0 && bits < 1 << width;
+                    Edges.due("piece(" + width + ", " + bits + ")", new NightCats().piece(width, bits), fits ? 0 : -1);
+                }
+            }
+        });
+        Edges.test(40, "with none left 0", () -> Edges.still("price(0)", NightCats::new, x -> x.price(0), 0));
+        Edges.test(40, "together by 3 (cut), less 60", () -> {
+            // 500 and 780 and 940 and 1046 by 3
+            int[] due = {120, 200, 253, 288};
+            for (int n = 1; n <= 4; n++) {
+                Edges.due("price(" + n + ")", new NightCats().price(n), due[n - 1]);
+            }
+        });
+        Edges.test(41, "n 0 .. 8; k 0 .. n", () -> {
+            for (int n = -1; n <= 9; n++) {
+                for (int k = -1; k <= 10; k++) {
+                    boolean fits = n >= 0 && n <= 8 && k >= 0 && k <= n;
+                    Edges.due("chances(" + n + ", " + k + ")", new NightCats().chances(n, k, true) > 0, fits);
+                }
+            }
+        });
+        Edges.test(43, "none wins", () -> {
+            Edges.still("play(0, 0)", NightCats::new, x -> x.play(0, 0), -1);
+            Edges.still("play(1, 2)", NightCats::new, x -> x.play(1, 2), -1);
+            Edges.still("play(12, 12)", NightCats::new, x -> x.play(12, 12), -1);
+        });
+        Edges.test(44, "(cat NONE: none any more)", () -> {
+            NightCats x = eightSaid();
+            x.said(-1, 50, 500);
+            Edges.due("said", x.about(8), 0);
+            Edges.due("all texts", x.whose(), 1);
+        });
+    }
+
+    private static void smaller() {
+        Edges.test(45, "(a TEXT without it: by what is so without)", () -> {
+            NightCats x = new NightCats();
+            x.house(3, 40);
+            x.cat(3, 4);
+            Due.read(x, "");
+            Due.read(x, "goes 9;");
+            Due.read(x, "takes 5;");
+            x.said(0, 0, 4);
+            Edges.due("by COLD", x.whose(), 3);
+            x.by(2);
+            Edges.due("whichever rules", x.whose(), 3);
+        });
+        Edges.test(46, "of like ones the lowest; none", () -> {
+            NightCats x = QuestionsEdges.stand("4646", "5555");
+            x.go(0, false);
+            Edges.due("the lowest", x.nearest(1), 0);
+            x.let(0, 0);
+            Edges.due("the next", x.nearest(1), 1);
+            x.go(1, true);
+            x.let(1, 1);
+            Edges.due("the third", x.nearest(2), 2);
+            x.go(2, false);
+            x.let(2, 2);
+            x.go(3, true);
+            Edges.due("the last", x.nearest(3), 3);
+            x.let(3, 3);
+            Edges.due("none", x.nearest(3), -1);
+        });
+        Edges.test(49, "(nothing TAKEN: 0 by 1)", () -> {
+            NightCats x = DeedsEdges.furnished();
+            for (int i = 0; i < 5; i++) {
+                x.undo();
+            }
+            for (int cat = 0; cat < 4; cat++) {
+                share("nothing TAKEN any more", x, cat, 0, 1);
+            }
+        });
+        Edges.test(50, "of like ones the lowest; none", () -> {
+            NightCats x = new NightCats();
+            Edges.due("none", x.coldest(), -1);
+            x.cat(0, 9);
+            x.cat(0, 9);
+            Edges.due("the lowest", x.coldest(), 0);
+        });
+        Edges.test(53, "(NONE: all)", () -> Edges.still("ledger(-1)", PiecesEdges::furnished, x -> x.ledger(-1), 3));
     }
 }

@@ -33,6 +33,8 @@ final class QuestionsEdges {
         told();
         likely();
         askNext();
+        pairsOfThemselves();
+        clues();
     }
 
     static NightCats furnished() {
@@ -95,8 +97,8 @@ final class QuestionsEdges {
             for (int n = 1; n <= 60; n++) {
                 NightCats asked = furnished();
                 NightCats gone = furnished();
-                gone.by(Due.read(gone, "takes cold;goes hour-9;"));
-                asked.by(Due.read(asked, "takes cold;goes hour-9;"));
+                Edges.rule(gone, "takes cold;goes hour-9;");
+                Edges.rule(asked, "takes cold;goes hour-9;");
                 gone.hour(n);
                 for (int cat = 0; cat < 4; cat++) {
                     Edges.due("place of " + cat + " behind " + n, asked.foretold(n, 0, cat), gone.of(cat, 0));
@@ -477,14 +479,16 @@ final class QuestionsEdges {
             Edges.due("one more, too far", x.track(3), 2);
             Edges.due("three", x.fewest(), 3);
         });
-        // 0 with 1 and 1 with 2, but not 0 with 2; and so around: as many as the least that colour such a ring of five
         Edges.test(30, "each two of one CAT can be of one", () -> {
             NightCats x = sights(0, 0, 1, 1, 1, 2);
             Edges.due("0 and 1", x.same(0, 1), true);
             Edges.due("1 and 2", x.same(1, 2), false);
             Edges.due("two", x.fewest(), 2);
             NightCats y = sights(0, 0, 2, 2, 0, 4);
-            Edges.due("first and second, second and third, not first and third", y.fewest(), 2);
+            Edges.due("0 and 1", y.same(0, 1), true);
+            Edges.due("1 and 2", y.same(1, 2), true);
+            Edges.due("0 and 2", y.same(0, 2), false);
+            Edges.due("two", y.fewest(), 2);
         });
     }
 
@@ -590,7 +594,7 @@ final class QuestionsEdges {
             Edges.due("nothing TOLD any more", x.which(), 7);
             x.told(1, 5);
             Edges.due("none", x.which(), 0);
-            x.by(Due.read(x, "takes dream;"));
+            Edges.rule(x, "takes dream;");
             Edges.due("as now: by the dream, all", x.which(), 7);
             x.hour(1);
             x.out(0);
@@ -676,7 +680,7 @@ final class QuestionsEdges {
             x.house(i, 10 * i + 10);
             x.cat(i, 1);
         }
-        x.by(Due.read(x, laws));
+        Edges.rule(x, laws);
         more.applyAsLong(x);
         Edges.due(name, x.askNext(), want);
     }
@@ -702,7 +706,7 @@ final class QuestionsEdges {
                         x.house(i, 10 * i);
                         x.cat(i, i / 2);
                     }
-                    x.by(Due.read(x, "takes turn who*" + a + "+cold*dream/10 to dream/10*" + b + "*who;"));
+                    Edges.rule(x, "takes turn (who*" + a + "+cold*dream/10) to (dream/10*" + b + "*who);");
                     Edges.due("who * " + a + ", dream * " + b, x.askNext(), leastAlike(x));
                 }
             }
@@ -746,7 +750,123 @@ final class QuestionsEdges {
 
     private static int lastAsked() {
         NightCats x = DeedsEdges.crowded();
-        x.by(Due.read(x, "takes if dream=500 then who else 1 end;"));
+        Edges.rule(x, "takes if dream=500 then who else 1 end;");
         return x.askNext();
+    }
+
+    private static void pairsOfThemselves() {
+        Edges.test(24, "(none there: 0, 0)", () -> {
+            Edges.still("match(0)", NightCats::new, x -> x.match(0), 0);
+            Edges.still("match(1)", NightCats::new, x -> x.match(1), 0);
+            Edges.due("houses alone", stand("123456", "").match(1), 0);
+            Edges.due("cats alone", stand("", "123456").match(1), 0);
+        });
+        Edges.test(24, "each with one at most", () -> {
+            pairs("5", "555555", 1, 0, "0");
+            pairs("555555", "5", 1, 0, "-----0");
+            pairs("555", "55555", 3, 0, "012");
+        });
+        Edges.test(24, "of CATS without and HOUSES with none in them", () -> {
+            NightCats x = stand("33", "34");
+            x.let(0, 0);
+            Edges.due("1 to the second", x.match(0), 1);
+            Edges.due("a step", x.match(1), 1);
+            Edges.due("the first", x.matched(0), -1);
+            Edges.due("the second", x.matched(1), 1);
+            x.go(1, false);
+            x.let(1, 1);
+            Edges.due("none", x.match(0), 0);
+        });
+        Edges.test(25, "(none is lower than any)", () -> {
+            pairs("33", "3", 1, 0, "-0");
+            pairs("43", "3", 1, 0, "-0");
+            pairs("34", "3", 1, 0, "0-");
+            pairs("3333", "33", 2, 0, "--01");
+            pairs("3533", "33", 2, 0, "--01");
+            pairs("3353", "33", 2, 0, "-0-1");
+        });
+        Edges.test(31, "(without SIGHTS 0, none)", () -> {
+            Edges.still("fewest()", NightCats::new, NightCats::fewest, 0);
+            for (int i = -1; i <= 1; i++) {
+                int which = i;
+                Edges.still("track(" + i + ")", NightCats::new, x -> x.track(which), -1);
+            }
+        });
+        Edges.test(29, "(hour NONE: none any more)", () -> {
+            NightCats x = sights(1, 1, 2, 2, 3, 9);
+            x.seen(-1, 3);
+            Edges.due("sights", x.about(5), 0);
+            Edges.due("fewest", x.fewest(), 0);
+            Edges.due("track", x.track(0), -1);
+            Edges.due("same", x.same(0, 0), false);
+        });
+        Edges.test(22, "1 .. 60; those that can pass", () -> {
+            for (int n : new int[] {0, 1, 60, 61}) {
+                Edges.due("foretold(" + n + ")", furnished().foretold(n, 1, 2), n < 1 || n > 60 ? -1 : 999);
+            }
+        });
+    }
+
+    private static void clues() {
+        Edges.test(33, "(house NONE: none any more)", () -> {
+            NightCats x = eightTold();
+            x.told(-1, 50);
+            Edges.due("told", x.about(6), 0);
+            Edges.due("which", x.which(), 7);
+        });
+        Edges.test(34, "(nothing TOLD: all)", () -> {
+            for (int cats = 0; cats <= 6; cats++) {
+                NightCats x = new NightCats();
+                for (int i = 0; i < cats; i++) {
+                    x.cat(i, i);
+                }
+                Edges.due("of " + cats, x.which(), (1 << cats) - 1);
+            }
+        });
+        Edges.test(34, "(as now, wherever it is)", () -> {
+            NightCats x = three();
+            Edges.rule(x, "takes place+taken+dream;");
+            x.told(1, 12);
+            Edges.due("at 7, by 5 of dream", x.which(), 2);
+            x.go(0, true);
+            x.go(0, true);
+            x.go(0, true);
+            x.go(0, true);
+            Edges.due("two at 7", x.which(), 3);
+            x.let(0, 1);
+            Edges.due("one of them in the house", x.which(), 3);
+            x.by(-1);
+            Edges.due("by COLD", x.which(), 0);
+        });
+        Edges.test(35, "(of one that doesn't 0 by 1)", () -> {
+            NightCats x = three();
+            x.told(0, 2);
+            ratio("one that doesn't", x, 0, 0, 1);
+            ratio("the one that does", x, 1, 1, 1);
+            ratio("one that doesn't", x, 2, 0, 1);
+        });
+        Edges.test(35, "or if none fits", () -> {
+            Edges.still("none fits", () -> {
+                NightCats x = three();
+                x.told(0, 99);
+                return x;
+            }, x -> x.likely(1, true), -1);
+            ratio("no cat at all", new NightCats(), 0, -1, -1);
+        });
+        Edges.test(36, "of like ones the lowest", () -> {
+            asks("the first of all alike", x -> 0, "takes 1;", 0);
+            asks("the second of two", x -> 0, "takes if dream=10 then 1 else who end;", 1);
+            asks("the third of two", x -> 0, "takes if dream<30 then 1 else who end;", 2);
+        });
+        Edges.test(36, "or fewer than two fit", () -> {
+            NightCats x = three();
+            x.told(0, 2);
+            Edges.due("one", x.askNext(), -1);
+            x.told(0, 4);
+            Edges.due("none", x.askNext(), -1);
+            x.told(-1, 0);
+            x.told(0, 4);
+            Edges.due("two", x.askNext(), 0);
+        });
     }
 }

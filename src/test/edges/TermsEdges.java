@@ -35,6 +35,9 @@ final class TermsEdges {
         stepsKept();
         stepsBack();
         toldSince();
+        takenAndLeft();
+        steppedBack();
+        used();
     }
 
     /** A house, door 3, of that dream, and a cat in it of that cold. */
@@ -47,7 +50,7 @@ final class TermsEdges {
     }
 
     private static NightCats under(NightCats x, String laws) {
-        x.by(Due.read(x, laws));
+        Edges.rule(x, laws);
         return x;
     }
 
@@ -579,6 +582,87 @@ final class TermsEdges {
                 Edges.due("house", x.ofHouse(i, 1), i * 100);
             }
             Edges.due("no seventh", x.cat(0, 0), -1);
+        });
+    }
+
+    private static void takenAndLeft() {
+        Edges.test(12, "by what it has, if that is less", () -> {
+            for (int dream = 0; dream <= 6; dream++) {
+                NightCats x = in(dream, 5);
+                Edges.due("5 of " + dream, x.hour(1), Math.min(5, dream));
+                Edges.due("is left", x.ofHouse(0, 1), dream - Math.min(5, dream));
+                Edges.due("TAKEN", x.of(0, 3), Math.min(5, dream));
+            }
+        });
+        Edges.test(12, "it goes off: without, at the door", () -> {
+            NightCats x = under(in(20, 4), "goes 1;");
+            x.hour(1);
+            Edges.due("without", x.of(0, 2), -1);
+            Edges.due("none is in the house", x.ofHouse(0, 2), -1);
+            Edges.due("at the door", x.of(0, 0), 3);
+            Edges.due("it can come again at once", x.let(0, 0), true);
+            Edges.due("two came", x.ofHouse(0, 3), 2);
+        });
+        Edges.test(12, "X mod 3", () -> {
+            // 397: up, 9920: down, 16032: stays
+            int[] due = {6, 5, 5};
+            NightCats x = new NightCats();
+            x.cat(5, 0);
+            for (int d : due) {
+                x.hour(1);
+                Edges.due("place", x.of(0, 0), d);
+            }
+        });
+    }
+
+    private static void steppedBack() {
+        Edges.test(15, "where CATS are, TAKEN, DREAMS, how many came, HOUR, X, BOOK are as ahead of it", () -> {
+            String[] laws = {"takes 3;", "takes 3;goes 1;", "takes 3;goes taken-6;"};
+            for (String law : laws) {
+                for (int n = 1; n <= 29; n++) {
+                    NightCats before = under(in(20, 4), law);
+                    before.cat(8, 1);
+                    NightCats x = under(in(20, 4), law);
+                    x.cat(8, 1);
+                    x.hour(n);
+                    for (int i = 0; i < n; i++) {
+                        x.undo();
+                    }
+                    Edges.due(n + " hours of " + law + " back", Looks.look(x, 0), Looks.look(before, 0));
+                }
+            }
+        });
+        Edges.test(15, "GONE", () -> {
+            NightCats x = in(20, 4);
+            x.cat(9, 1);
+            x.go(1, true);
+            Edges.due("undo", x.undo(), 1);
+            Edges.due("from 0 back to 9", x.of(1, 0), 9);
+            Edges.due("the other is in yet", x.of(0, 2), 0);
+        });
+        Edges.test(21, "the latest 25", () -> {
+            NightCats x = in(9, 1);
+            for (int n = 1; n <= 60; n++) {
+                Edges.due("lines", x.book(-1, 0), Math.min(n, 25));
+                Edges.due("the latest", x.book(Math.min(n, 25) - 1, 3), 1 - n % 2);
+                Edges.due("behind it", x.book(Math.min(n, 25), 3), -2);
+                if (n % 2 == 1) {
+                    x.out(0);
+                } else {
+                    x.let(0, 0);
+                }
+            }
+        });
+    }
+
+    private static void used() {
+        Edges.test(11, "An object is used for at most 512 calls after it has been made", () -> {
+            NightCats x = new NightCats();
+            x.cat(0, 0);
+            for (int i = 2; i <= 511; i++) {
+                x.go(0, true);
+            }
+            Edges.due("the 512th", x.of(0, 0), 0);
         });
     }
 }

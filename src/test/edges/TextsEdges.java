@@ -43,6 +43,8 @@ final class TextsEdges {
         limits();
         played();
         playedHours();
+        textsOfThemselves();
+        rulesOfThemselves();
     }
 
     /** Cats 0 (at 7, cold 3) and 1 (at 4, cold 8), house 0 (door 4, dream 30), cat 1 in it. */
@@ -803,7 +805,7 @@ final class TextsEdges {
         });
         Edges.test(19, "inside (1, if it is in a HOUSE, else 0) in goes", () -> {
             NightCats x = furnished();
-            x.by(Due.read(x, "goes inside;"));
+            Edges.rule(x, "goes inside;");
             Edges.due("one without", x.goes(0), 0);
             Edges.due("one in house 0", x.goes(1), 1);
             x.out(0);
@@ -814,14 +816,14 @@ final class TextsEdges {
     private static void name(NightCats x, String name, int cat, int house, int want) {
         nameInTakes(x, name, cat, house, want);
         x.image();
-        x.by(Due.read(x, "goes " + name + ";"));
+        Edges.rule(x, "goes " + name + ";");
         Edges.due("goes " + name + " of " + cat, x.goes(cat), want);
         x.back();
     }
 
     private static void nameInTakes(NightCats x, String name, int cat, int house, int want) {
         x.image();
-        x.by(Due.read(x, "takes " + name + ";"));
+        Edges.rule(x, "takes " + name + ";");
         Edges.due("takes " + name + " of " + cat + " in " + house, x.takes(cat, house), want);
         x.back();
     }
@@ -925,7 +927,7 @@ final class TextsEdges {
             for (int i = 0; i < 6; i++) {
                 x.cat(0, 9 - i);
             }
-            x.by(Due.read(x, "goes chill (5-who)+chill 6;"));
+            Edges.rule(x, "goes chill (5-who)+chill 6;");
             for (int i = 0; i < 6; i++) {
                 Edges.due("chill " + (5 - i), x.goes(i), 4 + i);
             }
@@ -1027,13 +1029,13 @@ final class TextsEdges {
         });
         Edges.test(18, "without: COLD", () -> {
             NightCats x = furnished();
-            x.by(Due.read(x, "goes 5;up 0;"));
+            Edges.rule(x, "goes 5;up 0;");
             Edges.due("a text without takes", x.takes(0, 0), 3);
             Edges.due("its goes", x.goes(0), 5);
-            x.by(Due.read(x, ""));
+            Edges.rule(x, "");
             Edges.due("an empty text", x.takes(1, 0), 8);
             Edges.due("an empty text", x.goes(1), 0);
-            x.by(Due.read(x, "takes 5;"));
+            Edges.rule(x, "takes 5;");
             Edges.due("a text without goes", x.goes(1), 0);
             Edges.due("its takes", x.takes(1, 0), 5);
             NightCats cold = new NightCats();
@@ -1143,6 +1145,100 @@ final class TextsEdges {
                 Edges.due("each that passed is a step", x.undo(), steps - 1);
                 Edges.due("hour", x.is(0), 9998 - left + Math.min(left, 3));
             }
+        });
+    }
+
+    private static void textsOfThemselves() {
+        Edges.test(4, "if there would be more than 300", () -> {
+            for (int has = 270; has <= 300; has++) {
+                NightCats x = new NightCats();
+                for (int i = 0; i < 15; i++) {
+                    x.feed(0, 0, 0, 0, 0);
+                }
+                x.end(has);
+                Edges.due("feed behind " + has, x.feed(0, 0, 0, 0, 0), has + 20 > 300 ? -1 : has + 20);
+                Edges.due("bytes", x.about(9), has + 20 > 300 ? has : has + 20);
+            }
+        });
+        Edges.test(5, "or n is below 0", () -> {
+            Edges.still("end(-1)", TextsEdges::busy, x -> x.end(-1), -1);
+            Edges.still("end(-1) of none", NightCats::new, x -> x.end(-1), -1);
+            Edges.still("end of the least", TextsEdges::busy, x -> x.end(Integer.MIN_VALUE), -1);
+        });
+        Edges.test(7, "and ahead of any", () -> {
+            Edges.still("fault(0)", NightCats::new, x -> x.fault(0), -1);
+            Edges.still("fault(1)", NightCats::new, x -> x.fault(1), -1);
+        });
+        Edges.test(7, "0 its FAULT (0 without), 1 its place (NONE without)", () -> {
+            NightCats x = new NightCats();
+            x.text();
+            Edges.due("of an empty text", x.fault(0), 0);
+            Edges.due("of an empty text", x.fault(1), -1);
+        });
+        Edges.test(6, "TEXTS 0 .. 3", () -> {
+            NightCats x = new NightCats();
+            for (int i = 0; i < 4; i++) {
+                Edges.due("text", Due.read(x, "takes " + (10 + i) + ";goes " + (20 + i) + ";"), i);
+            }
+            x.house(1, 1);
+            x.cat(1, 1);
+            for (int i = 3; i >= 0; i--) {
+                Edges.due("by", x.by(i), true);
+                Edges.due("takes", x.takes(0, 0), 10 + i);
+                Edges.due("goes", x.goes(0), 20 + i);
+            }
+        });
+    }
+
+    private static void rulesOfThemselves() {
+        Edges.test(8, "THE TEXT (told; at first none) rules.", () -> {
+            NightCats x = new NightCats();
+            Edges.due("at first none", x.about(3), -1);
+            Due.read(x, "takes 7;");
+            Edges.due("none by being read", x.about(3), -1);
+        });
+        Edges.test(18, "takes: 0 at least, 99 at most", () -> {
+            String[][] rows = {{"-1", "0"}, {"0", "0"}, {"99", "99"}, {"100", "99"}, {"9999*9999", "99"}, {"-9999*9999", "0"}};
+            for (String[] row : rows) {
+                NightCats x = furnished();
+                Edges.rule(x, "takes " + row[0] + ";");
+                Edges.due("takes " + row[0], x.takes(1, 0), Integer.parseInt(row[1]));
+            }
+        });
+        Edges.test(12, "takes: 0 at least, 99 at most", () -> {
+            NightCats x = new NightCats();
+            x.house(4, 500);
+            x.cat(4, 1);
+            x.let(0, 0);
+            Edges.rule(x, "takes if hour<1 then 0-50 else if hour<2 then 100 else 99 end end;");
+            Edges.due("no dream comes back", x.hour(1), 0);
+            Edges.due("of 100", x.hour(1), 99);
+            Edges.due("of 99", x.hour(1), 99);
+        });
+        Edges.test(19, "by 0 it is 0", () -> {
+            lawIs("1/0", 0);
+            lawIs("7+1/0", 7);
+            lawIs("(9999*9999)/0", 0);
+            lawIs("5/inside", 5);
+            lawIs("5/(inside-1)", 0);
+            lawIs("0/0+3", 3);
+        });
+        Edges.test(13, "its number among all CLAUSES (from 0); what was done stays", () -> {
+            for (int ahead = 0; ahead < 23; ahead++) {
+                NightCats x = new NightCats();
+                x.cat(0, 0);
+                Due.read(x, "goes 1;" + Due.times(ahead, "up 0;") + "out 0;");
+                Edges.due("number", x.played(0), ahead + 1);
+                Edges.due("what was done", x.of(0, 0), ahead % 10);
+                Edges.due("steps", x.about(4), ahead);
+            }
+        });
+        Edges.test(13, "its CLAUSES but laws", () -> {
+            NightCats x = new NightCats();
+            Due.read(x, "takes 1;goes 1;");
+            Edges.due("laws alone", x.played(0), -1);
+            Edges.due("none rules by it", x.about(3), -1);
+            Edges.due("no step", x.about(4), 0);
         });
     }
 }
