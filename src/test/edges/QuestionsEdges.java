@@ -262,6 +262,24 @@ final class QuestionsEdges {
             Edges.due("the last house", y.matched(5), 5);
             Edges.due("the lowest", y.matched(1), 1);
         });
+        Edges.test(25, "NONE: none", () -> {
+            for (int last = 1; last <= 6; last++) {
+                NightCats x = stand("333333".substring(0, last), "3456789".substring(0, last + 1));
+                for (int h = last - 1; h >= 0; h--) {
+                    int cat = last - 1 - h;
+                    for (int i = 0; i < last; i++) {
+                        Edges.due("matched(" + i + ") of " + last, x.matched(i), i <= h ? cat + i : -1);
+                    }
+                    for (int i = 0; i < 10 && x.of(cat, 0) != 3; i++) {
+                        x.go(cat, false);
+                    }
+                    Edges.due("let in", x.let(cat, h), true);
+                }
+                for (int i = 0; i < last; i++) {
+                    Edges.due("none is left", x.matched(i), -1);
+                }
+            }
+        });
         Edges.test(25, "NONE: none, and for others.", () -> {
             for (int house : new int[] {-1, 3, 6, LEAST, MOST}) {
                 Edges.still("matched(" + house + ")", QuestionsEdges::furnished, x -> x.matched(house), -1);
@@ -855,6 +873,9 @@ final class QuestionsEdges {
         });
         Edges.test(36, "of like ones the lowest", () -> {
             asks("the first of all alike", x -> 0, "takes 1;", 0);
+            NightCats six = DeedsEdges.crowded();
+            Edges.rule(six, "takes 9;");
+            Edges.due("six alike in each of six", six.askNext(), 0);
             asks("the second of two", x -> 0, "takes if dream=10 then 1 else who end;", 1);
             asks("the third of two", x -> 0, "takes if dream<30 then 1 else who end;", 2);
         });
